@@ -1,0 +1,36 @@
+/** Keeps count of answers that are not the ones due; the tests share it. */
+final class Due {
+    private int asked = 0;
+    private int wrong = 0;
+
+    void is(String call, long got, long want) {
+        asked++;
+        if (got != want) {
+            wrong++;
+            System.out.println(call + " answered " + got + ", due is " + want);
+        }
+    }
+
+    /** Tells a text to the tape and makes it the law: what law() answers. */
+    static int law(ShieldLine x, String text) {
+        for (int i = 0; i < text.length(); i++) {
+            x.feed(text.charAt(i));
+        }
+        return x.law();
+    }
+
+    /** Lays a row of bytes on a shelf. */
+    static void bytes(ShieldLine x, int shelf, int... values) {
+        x.row(shelf, 0, values.length);
+        for (int i = 0; i < values.length; i++) {
+            x.put(shelf, i, values[i]);
+        }
+    }
+
+    void end() {
+        System.out.println(asked + " answers, " + wrong + " not as due");
+        if (wrong != 0 || asked == 0) {
+            System.exit(1);
+        }
+    }
+}
