@@ -77,6 +77,11 @@ public final class PeopleTest {
         due.is("3 full: none", x.people(0, 0, 8), 0);
         due.is("3 full", x.count(0), 8);
         due.is("3 none of it is a change", x.count(3), 0);
+        ShieldLine y = new ShieldLine();
+        Due.bytes(y, 5, 1, 1, 1, 2, 2, 2);
+        due.is("3 to the end of the row", y.people(5, 0, 2), 2);
+        due.is("3 beyond the end of the row", y.people(5, 3, 2), 1);
+        due.is("3 the last of the row", y.of(2, 0), 2);
     }
 
     private static void promise4Mend() {
@@ -155,7 +160,7 @@ public final class PeopleTest {
         }
         String[] good = {"g", "1234", "0000", "((((((g))))))", "!!!!!!g", "------1", "!-(!-(g))",
             "(g)+((((((g))))))", "!g+!!!!!!g", "(g<d)<n", "g<d&n<s|t=k", "g?d;n?s", "g?d;n;s?t", "g--d", "g-!d",
-            "-(-(-(g)))", "g<!d", "g+(d<n)*(k>s)"};
+            "-(-(-(g)))", "g<!d", "g+(d<n)*(k>s)", "1?((((((g))))))", "((((((g))))))?g|d;0?!!!!!!g&d"};
         for (int i = 0; i < good.length; i++) {
             if (i % 10 == 0) x = new ShieldLine();
             due.is("7 law of '" + good[i] + "'", Due.law(x, good[i]), 1);
@@ -198,7 +203,7 @@ public final class PeopleTest {
         x.mend(0, 6, 9);
         Object[] laws = {
             "g", 7, "d", 4, "n", 6, "k", 2, "s", 15, "t", 9, "1+2*3", 7, "10-2-3", 5, "(1+2)*3", 9,
-            "20/3/2", 3, "17%5", 2, "2*7%4", 2, "1|0&0", 1, "(1|0)&0", 0, "5|0", 1, "2&3", 1, "2&0", 0,
+            "20/3/2", 3, "17%5", 2, "2*7%4", 2, "1|0&0", 1, "(1|0)&0", 0, "5|0", 1, "2&3", 1, "2&0", 0, "1&1", 1, "1&2", 1,
             "0|0", 0, "2<3", 1, "3<2", 0, "3<3", 0, "3>2", 1, "3>3", 0, "3=3", 1, "3=4", 0,
             "1+1=2", 1, "2=1+1", 1, "5>4&4>5", 0, "(2<3)=1", 1, "-3+5", 2, "-7/2+10", 7, "(0-7)%4+10", 7,
             "5/0", 0, "5%0", 0, "3+5/0", 3, "!0", 1, "!5", 0, "!!5", 1, "--5", 5, "!-5", 0, "!g+3", 3};
@@ -211,7 +216,7 @@ public final class PeopleTest {
         Object[] more = {
             "9999*9999*9999<0", 1, "0?5;0?6", 0, "0?5;7;8", 7, "t=9?3;4", 3,
             "t=8?3;4", 4, "2?5", 5, "0-1?5;6", 5, "99", 20, "0-5", 0, "20", 20, "21", 20, "19", 19,
-            "0?1;0?2;1?3;1?4", 3, "6;0?1", 6, "9-2*3", 3, "8/4*2", 4, "9%4/1", 1, "3-1+1", 3, "0007", 7};
+            "0?1;0?2;1?3;1?4", 3, "6;0?1", 6, "9-2*3", 3, "1?0|5", 1, "1?5&0", 0, "8/4*2", 4, "9%4/1", 1, "3-1+1", 3, "0007", 7};
         check(y, more);
     }
 
@@ -231,6 +236,21 @@ public final class PeopleTest {
         x.mend(0, 4, 1);
         check(x, "5149*9*(5149*9)<0", 1, "8192*8192*32<0", 1, "8192*8192*32/-1<0", 1, "8192*8192*32%-1", 0,
             "8192*8192*64", 0, "8192*8192*32-1>0", 1, "-(8192*8192*32)<0", 1, "9999*9999*9999/-9999/9999", 10);
+    }
+
+    private static void promise8Far() {
+        ShieldLine x = new ShieldLine();
+        x.person(0);
+        x.person(0);
+        x.mend(0, 4, 1);
+        Due.law(x, "d");
+        int[][] far = {{0, 0, 0}, {13, 34, 6}, {34, 13, 6}, {5, 30, 10}, {30, 5, 10}, {0, 35, 10}, {35, 0, 10},
+            {11, 6, 5}, {6, 11, 5}, {23, 12, 6}, {12, 23, 6}, {7, 8, 1}, {14, 8, 1}, {29, 29, 0}, {20, 15, 2}};
+        for (int[] f : far) {
+            x.mend(0, 0, f[0]);
+            x.mend(1, 0, f[1]);
+            due.is("8 how far " + f[0] + " from " + f[1], x.comes(0), f[2]);
+        }
     }
 
     private static void promise8Comes() {
@@ -268,6 +288,7 @@ public final class PeopleTest {
         promise7Law();
         promise8Law();
         promise8Wrap();
+        promise8Far();
         promise8Comes();
         due.end();
     }

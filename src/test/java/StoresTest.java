@@ -82,6 +82,16 @@ public final class StoresTest {
         due.is("18 what -1", x.fits(0, 0, -1), -1);
         due.is("18 gives stay", x.of(0, 1), 4);
         due.is("18 cares stay", x.of(0, 4), 1);
+        ShieldLine y = many(8);
+        y.mend(7, 4, 2);
+        y.mend(7, 0, 2);
+        Due.bytes(y, 0, 20, 24);
+        due.is("18 of 2 by 7", y.fits(0, 27, 1), 7);
+        due.is("18 of 7 by 7", y.fits(0, 77, 1), -2);
+        Due.bytes(y, 0, 20, 21);
+        due.is("18 of 2 by 7, for whom", y.fits(0, 27, 2), 4);
+        Due.bytes(y, 0, 20, 15);
+        due.is("18 of 2 by 7, for whom not", y.fits(0, 27, 2), 255 - 128 - 4 + 256);
     }
 
     private static void can(String name, ShieldLine x, long above, long below) {
@@ -146,6 +156,9 @@ public final class StoresTest {
         x.mend(1, 3, 0);
         x.mend(1, 1, 2);
         due.is("20 by GIVES alone", x.paid(1, 5), 5);
+        x.mend(1, 1, 1);
+        due.is("20 1 of 1", x.paid(1, 5), 5);
+        due.is("20 0 of 1", x.paid(0, 5), 0);
         due.is("20 v -1", x.paid(0, -1), -1);
         due.is("20 v 10000", x.paid(0, 10000), -1);
         due.is("20 one 5", x.paid(5, 1), -1);
@@ -182,6 +195,22 @@ public final class StoresTest {
         turns("alone: nothing helps", y, 11, 1, 8);
         turns("alone, with store 5, the wind takes it", y, 20, 1, 8);
         turns("alone, no wind", y, 30, 1, 8);
+    }
+
+    /** Alone both lack behind two days; by two deeds of his each has more than he needs. */
+    private static void promise21Deeds() {
+        ShieldLine x = many(2);
+        x.mend(0, 3, 8);
+        x.mend(1, 3, 8);
+        turns("one deed, one is cared for", x, 12, 1, 0);
+        turns("one deed each", x, 22, 1, 0);
+        turns("two deeds of his", x, 32, 0, 0);
+        x.mend(0, 3, 6);
+        x.mend(1, 3, 6);
+        turns("the wind takes 5 of 6", x, 20, 0, 8);
+        x.mend(1, 3, 5);
+        turns("the wind takes 5 of 5", x, 20, 1, 8);
+        turns("behind no day care does not help", x, 30, 1, 8);
     }
 
     /** 2 must come from caring for 1, over 0 behind the last one, or over 2 himself. */
@@ -251,6 +280,13 @@ public final class StoresTest {
             due.is("22 who loses, " + i, x.drawn(1, 101, i), i == who ? 20 - loss : 20);
         }
         due.is("22 something is lost", loss > 0 ? 1 : 0, 1);
+        for (int seed = 2; seed < 40; seed++) {
+            int y = seed * 1103515245 + 12345;
+            for (int i = 0; i < 3; i++) {
+                int want = i == (y >>> 8) % 3 ? 20 - (y >>> 16) % 10 : 20;
+                due.is("22 who loses by " + seed + ", " + i, x.drawn(seed, 101, i), want);
+            }
+        }
         x.mend(who, 3, loss);
         x.mend(who, 4, (who + 1) % 3);
         due.is("22 he lacks ahead of the day, so he gives nothing", x.drawn(1, 101, (who + 1) % 3), 20);
@@ -267,6 +303,7 @@ public final class StoresTest {
         promise19Can();
         promise20Paid();
         promise21ByTurns();
+        promise21Deeds();
         promise21Next();
         promise22Drawn();
         promise22Who();

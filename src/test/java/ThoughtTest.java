@@ -20,6 +20,8 @@ public final class ThoughtTest {
     private static void promise9Later() {
         ShieldLine x = pair();
         due.is("9 now", x.later(0, 0), 20);
+        due.is("9 now, all", x.later(0, -1), 40);
+        due.is("9 two days, all", x.later(2, -1), 32);
         due.is("9 four days, 0", x.later(4, 0), 0);
         due.is("9 four days, 1", x.later(4, 1), 24);
         due.is("9 five days, 1: nothing came", x.later(5, 1), 21);
@@ -198,6 +200,35 @@ public final class ThoughtTest {
         due.is("14 done again", x.round(0, -2), 129);
     }
 
+    private static void promise14Anew() {
+        ShieldLine x = many(2);
+        due.is("14 of two", x.round(0, -2), 40);
+        x.person(3);
+        due.is("14 of three", x.round(0, -2), 60);
+        Due.bytes(x, 0, 1, 1, 1);
+        x.people(0, 0, 1);
+        due.is("14 of four", x.round(0, -2), 80);
+        x.image();
+        x.gives(0, 1, 20);
+        due.is("14 0 lacks", x.round(0, -1), 1);
+        x.back();
+        due.is("14 laid back", x.round(0, -1), 0);
+        due.is("14 by no law", x.round(1, -2), 80 - 10 + 13 - 2);
+        Due.law(x, "0");
+        due.is("14 by another law", x.round(1, -2), 70);
+    }
+
+    private static void promise14Ends() {
+        ShieldLine x = many(2);
+        x.mend(0, 3, 0);
+        due.is("14 one with nothing gives nothing", x.round(1, -2), 18);
+        ShieldLine y = many(8);
+        for (int i = 0; i < 8; i++) y.mend(i, 3, 0);
+        due.is("14 all eight lack", y.round(6, -1), 8);
+        due.is("14 nothing there", y.round(6, -2), 0);
+        for (int i = 0; i < 8; i++) due.is("14 the first of all", y.round(6, i), (i + 1) % 8);
+    }
+
     /** Only 2's gift is far above the need, and 0 has nothing: so 2 must care for 0. */
     private static void promise14Choice() {
         ShieldLine x = many(4);
@@ -255,6 +286,9 @@ public final class ThoughtTest {
         due.is("15 of like ones the first: 1 for 0", x.mended(1), 0);
         due.is("15 of like ones the first: 2 for 3", x.mended(2), 3);
         due.is("15 cares stay as they are", x.of(0, 4), 3);
+        ShieldLine y = many(8);
+        due.is("15 all eight", y.mended(-1), 8);
+        for (int i = 0; i < 8; i++) due.is("15 the first of all", y.mended(i), i ^ 1);
     }
 
     private static void promise16Gone() {
@@ -286,6 +320,10 @@ public final class ThoughtTest {
         due.is("16 cares stay", x.of(2, 4), 0);
         Due.law(x, "k>1?0;9");
         due.is("16 who is gone does not care: k", x.gone(1, 3), 0);
+        ShieldLine y = many(3);
+        y.mend(0, 3, 5);
+        y.mend(1, 4, 2);
+        due.is("16 who cared for him cares for nobody, not for 0", y.gone(1, 2), 1);
     }
 
     public static void main(String[] args) {
@@ -297,6 +335,8 @@ public final class ThoughtTest {
         promise12Care();
         promise13Cared();
         promise14Round();
+        promise14Anew();
+        promise14Ends();
         promise14Choice();
         promise15Mended();
         promise16Gone();
