@@ -1,5 +1,3 @@
-import java.util.Arrays;
-
 /** A town in which each does for another one what that one should do for himself. */
 public final class ShieldLine {
     public static final int BAD = -1, NOT = -2, FULL = -3, STATE = -5, VOID = -2000000000;
@@ -131,7 +129,7 @@ public final class ShieldLine {
         for (int days = 0; days <= MOST_DAYS; days++) {
             int lack = thought.lackBits() & asked;
             if (lack != 0) {
-                return one == -1 ? Integer.numberOfTrailingZeros(lack) : days;
+                return one == -1 ? lowestBit(lack) : days;
             }
             thought.passDay(rule);
         }
@@ -231,7 +229,7 @@ public final class ShieldLine {
         if (what == 0) {
             return Integer.bitCount(gifts);
         }
-        return gifts == 0 ? NOT : Integer.numberOfTrailingZeros(gifts);
+        return lowestBit(gifts);
     }
 
     public long can(int shelf, int part) {
@@ -268,7 +266,8 @@ public final class ShieldLine {
         if (!within(nt, 10, 36) || nt % 10 > 6 || !within(what, 0, 1)) {
             return BAD;
         }
-        int lack = turns.play(town, rule, nt / 10, nt % 10);
+        turns.begin(town, nt / 10, nt % 10);
+        int lack = turns.fewest(rule, nt / 10, -1);
         return what == 0 ? lack : turns.firstDeed;
     }
 
@@ -476,6 +475,15 @@ public final class ShieldLine {
             return 0;
         }
         return v > most ? most : v;
+    }
+
+    private static int lowestBit(int bits) {
+        for (int i = 0; i < 10; i++) {
+            if ((bits >> i & 1) == 1) {
+                return i;
+            }
+        }
+        return NOT;
     }
 
     /** Every number of the town but the people's coming and the passing of days goes through here. */
@@ -701,7 +709,9 @@ public final class ShieldLine {
         }
 
         private void countCarers() {
-            Arrays.fill(carers, 0);
+            for (int i = 0; i < many; i++) {
+                carers[i] = 0;
+            }
             for (int i = 0; i < many; i++) {
                 if (hasPerson(whom[i])) {
                     carers[whom[i]]++;
@@ -741,8 +751,10 @@ public final class ShieldLine {
 
         private void passDay(Law law) {
             countCarers();
-            Arrays.fill(coming, 0);
             came = 0;
+            for (int i = 0; i < many; i++) {
+                coming[i] = 0;
+            }
             for (int i = 0; i < many; i++) {
                 if (hasPerson(whom[i])) {
                     int gift = comesFrom(i, law);
@@ -816,12 +828,13 @@ public final class ShieldLine {
     /** The law as steps on a stack; without steps it is the one that holds without a text. */
     private static final class Law {
         private static final int NUMBER = 0, NAME = 1, ANSWER = 2, TEST = 3, NEGATE = 4, OPPOSITE = 5;
-        private static final int MOST_STEPS = 250;
+        // A byte makes one step at most, ; none, and each line's end one: so 121. Six open hold 36 values.
+        private static final int MOST_STEPS = 128, MOST_VALUES = 48;
 
         private final int[] steps = new int[MOST_STEPS];
         private final int[] with = new int[MOST_STEPS];
         private int size = 0;
-        private final int[] stack = new int[MOST_STEPS];
+        private final int[] stack = new int[MOST_VALUES];
         private final int[] names = new int[6];
 
         private int add(int step, int v) {
@@ -859,7 +872,7 @@ public final class ShieldLine {
                 int step = steps[at];
                 if (step <= NAME) {
                     top++;
-                    if (top >= MOST_STEPS) {
+                    if (top >= MOST_VALUES) {
                         return 0;
                     }
                     stack[top] = step == NUMBER ? with[at] : named(with[at]);
@@ -873,7 +886,7 @@ public final class ShieldLine {
                 } else if (step == NEGATE) {
                     stack[top] = -stack[top];
                 } else if (step == OPPOSITE) {
-                    stack[top] = truth(stack[top] == 0);
+                    stack[top] = stack[top] == 0 ? 1 : 0;
                 } else if (top < 1) {
                     return 0;
                 } else {
@@ -888,17 +901,13 @@ public final class ShieldLine {
             return name >= 0 && name < names.length ? names[name] : 0;
         }
 
-        private static int truth(boolean so) {
-            return so ? 1 : 0;
-        }
-
         private static int joined(int sign, int a, int b) {
             switch (sign) {
-                case '|': return truth(a != 0 || b != 0);
-                case '&': return truth(a != 0 && b != 0);
-                case '<': return truth(a < b);
-                case '=': return truth(a == b);
-                case '>': return truth(a > b);
+                case '|': return a != 0 || b != 0 ? 1 : 0;
+                case '&': return a != 0 && b != 0 ? 1 : 0;
+                case '<': return a < b ? 1 : 0;
+                case '=': return a == b ? 1 : 0;
+                case '>': return a > b ? 1 : 0;
                 case '+': return a + b;
                 case '-': return a - b;
                 case '*': return a * b;
@@ -1131,12 +1140,24 @@ public final class ShieldLine {
 
         private void weigh(Town town, Law law) {
             System.arraycopy(town.stores, 0, stores, 0, MOST_PEOPLE);
-            for (int i = 0; i < days; i++) {
-                passRingDay(town, law, i);
+            for (int past = 0; past < days; past++) {
+                // In a ring each is cared for by just one, so the wind takes nothing.
+                for (int i = 0; i < town.many; i++) {
+                    int to = whom[i];
+                    int gift = stores[i] == 0 ? 0 : giftOf(town, law, past, i, to);
+                    next[to] = held(stores[to] + gift - town.needs[to], MOST_STORE);
+                }
+                int[] old = stores;
+                stores = next;
+                next = old;
             }
+            compare(town.many);
+        }
+
+        private void compare(int many) {
             int lack = 0;
             int sum = 0;
-            for (int i = 0; i < town.many; i++) {
+            for (int i = 0; i < many; i++) {
                 sum += stores[i];
                 lack += stores[i] == 0 ? 1 : 0;
             }
@@ -1145,18 +1166,6 @@ public final class ShieldLine {
                 most = sum;
                 System.arraycopy(whom, 0, best, 0, MOST_PEOPLE);
             }
-        }
-
-        /** In a ring each is cared for by just one, so the wind takes nothing. */
-        private void passRingDay(Town town, Law law, int past) {
-            for (int i = 0; i < town.many; i++) {
-                int to = whom[i];
-                int gift = stores[i] == 0 ? 0 : giftOf(town, law, past, i, to);
-                next[to] = held(stores[to] + gift - town.needs[to], MOST_STORE);
-            }
-            int[] old = stores;
-            stores = next;
-            next = old;
         }
 
         private int giftOf(Town town, Law law, int past, int one, int to) {
@@ -1211,17 +1220,18 @@ public final class ShieldLine {
         private int days = 0;
         private int firstDeed = NOTHING_DONE;
 
-        private int play(Town town, Law law, int n, int t) {
+        private void begin(Town town, int n, int t) {
             now.become(town);
             deeds = n;
             days = t;
             firstDeed = NOTHING_DONE;
-            return fewest(law, n, -1);
         }
 
         private int lackAtEnd(Law law) {
             end.become(now);
-            end.passDays(law, days);
+            for (int i = 0; i < days; i++) {
+                end.passDay(law);
+            }
             return Integer.bitCount(end.lackBits());
         }
 
@@ -1473,7 +1483,9 @@ public final class ShieldLine {
         private void holdRow(int shelf, int sort, int n) {
             holds[shelf] = sort;
             sizes[shelf] = n;
-            Arrays.fill(elements, shelf * MOST_ELEMENTS, (shelf + 1) * MOST_ELEMENTS, 0);
+            for (int i = 0; i < MOST_ELEMENTS; i++) {
+                elements[shelf * MOST_ELEMENTS + i] = 0;
+            }
         }
 
         private long get(int shelf, int i) {

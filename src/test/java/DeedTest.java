@@ -237,12 +237,12 @@ public final class DeedTest {
         due.is("30 forty still", x.count(3), 40);
     }
 
-    /** 44 changes of unlike numbers: the first four are no longer kept. */
+    /** 45 changes of unlike numbers: the first five are no longer kept. */
     private static void promise30Unlike() {
         ShieldLine x = many(8);
         int[] most = {35, 9, 9, 99};
-        int[][] was = new int[44][];
-        for (int i = 0; i < 44; i++) {
+        int[][] was = new int[45][];
+        for (int i = 0; i < 45; i++) {
             int one = i * 5 % 8;
             int what = i * 3 % 4;
             int v = (i * 7 + 1) % (most[what] + 1);
@@ -251,13 +251,13 @@ public final class DeedTest {
             x.mend(one, what, v);
         }
         due.is("30 forty of them", x.count(3), 40);
-        for (int i = 43; i >= 4; i--) {
-            due.is("30 undone", x.undo(), i - 4);
+        for (int i = 44; i >= 5; i--) {
+            due.is("30 undone", x.undo(), i - 5);
             due.is("30 it was", x.of(was[i][0], was[i][1]), was[i][2]);
         }
         due.is("30 no more", x.undo(), -5);
-        for (int i = 4; i < 44; i++) {
-            due.is("30 done again", x.redo(), 43 - i);
+        for (int i = 5; i < 45; i++) {
+            due.is("30 done again", x.redo(), 44 - i);
             due.is("30 it is", x.of(was[i][0], was[i][1]), was[i][3]);
         }
     }

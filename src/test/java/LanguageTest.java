@@ -90,13 +90,11 @@ public final class LanguageTest {
         String all = Files.readString(Path.of("src/main/java/ShieldLine.java"));
         String code = all.replaceAll("(?s)/\\*.*?\\*/", " ").replaceAll("//[^\n]*", " ");
         String[] banned = {"throw", "throws", "try", "catch", "synchronized", "assert", "Exact", "hashCode", "toString",
-            "package", "Random", "System\\.(?!arraycopy)", "Thread", "->", "::", "double", "float", "String", "null"};
+            "package", "import", "Random", "System\\.(?!arraycopy)", "Thread", "->", "::", "double", "float", "String", "null"};
         for (String word : banned) {
             Matcher m = Pattern.compile(word.matches("\\w+") ? "\\b" + word + "\\b" : word).matcher(code);
             due.is("the word " + word, m.find() ? 1 : 0, 0);
         }
-        Matcher m = Pattern.compile("import ([\\w.]+);").matcher(code);
-        while (m.find()) due.is("import " + m.group(1), m.group(1).equals("java.util.Arrays") ? 1 : 0, 1);
         for (int i = 0; i < all.length(); i++) {
             if (all.charAt(i) > 126) due.is("the sign at " + i, all.charAt(i), 0);
         }

@@ -238,6 +238,36 @@ public final class PeopleTest {
             "8192*8192*64", 0, "8192*8192*32-1>0", 1, "-(8192*8192*32)<0", 1, "9999*9999*9999/-9999/9999", 10);
     }
 
+    /** As many values as can wait at once: five at each of seven depths. */
+    private static void promise8Deep() {
+        ShieldLine x = new ShieldLine();
+        x.person(0);
+        x.person(1);
+        x.mend(0, 4, 1);
+        StringBuilder t = new StringBuilder("5+2*(");
+        for (int i = 0; i < 5; i++) t.append("0|1&1<1+1*(");
+        t.append("0|1&1<1+1*g))))))");
+        check(x, t.toString(), 7);
+        check(x, "0|1&1<1+1*(0|1&1<1+1*(0|1&1<1+1*(0|1&1<1+1*(0|1&1<1+1*(0|1&1<1+1*(0|1&1<1+1*g))))))", 1);
+        check(x, "0|1&1<1+1*(0|1&1<1+1*(0|1&1<1+1*(0|1&1<1+1*(0|1&1<1+1*(0|1&1<1+1*(0|1&1<1-1*g))))))", 0);
+        check(x, "0|1&1<1*(0|1&1<1+1*(0|1&1<1+1*(0|1&1<1+1*(0|1&1<1+1*(0|1&1<1+1*(0|1&1<1+1*g))))))", 0);
+    }
+
+    /** As many lines, and as many steps, as the tape can hold. */
+    private static void promise8Long() {
+        ShieldLine x = new ShieldLine();
+        x.person(0);
+        x.person(1);
+        x.mend(0, 4, 1);
+        StringBuilder t = new StringBuilder();
+        for (int i = 0; i < 29; i++) t.append("0?1;");
+        check(x, t + "1?4", 4);
+        check(x, t + "2?!4", 0);
+        StringBuilder u = new StringBuilder("9");
+        for (int i = 0; i < 59; i++) u.append(";8");
+        check(x, u.toString(), 9);
+    }
+
     private static void promise8Far() {
         ShieldLine x = new ShieldLine();
         x.person(0);
@@ -288,6 +318,8 @@ public final class PeopleTest {
         promise7Law();
         promise8Law();
         promise8Wrap();
+        promise8Deep();
+        promise8Long();
         promise8Far();
         promise8Comes();
         due.end();

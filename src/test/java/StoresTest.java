@@ -194,7 +194,11 @@ public final class StoresTest {
         y.mend(0, 3, 5);
         turns("alone: nothing helps", y, 11, 1, 8);
         turns("alone, with store 5, the wind takes it", y, 20, 1, 8);
-        turns("alone, no wind", y, 30, 1, 8);
+        turns("alone, still", y, 30, 1, 8);
+        y.mend(0, 3, 36);
+        turns("the wind takes 5 once in three deeds, and six days 30", y, 36, 0, 8);
+        y.mend(0, 3, 35);
+        turns("one less", y, 36, 1, 8);
     }
 
     /** Alone both lack behind two days; by two deeds of his each has more than he needs. */
