@@ -2,13 +2,34 @@
 final class Due {
     private int asked = 0;
     private int wrong = 0;
+    private String heading = "";
+
+    /** What is told ahead of each call from now on. */
+    void under(String told) {
+        heading = told;
+    }
+
+    int asked() {
+        return asked;
+    }
 
     void is(String call, long got, long want) {
         asked++;
         if (got != want) {
-            wrong++;
-            System.out.println(call + " answered " + got + ", due is " + want);
+            fails(call + " answered " + got + ", due is " + want);
         }
+    }
+
+    void same(String what, String got, String want) {
+        asked++;
+        if (!got.equals(want)) {
+            fails(what + ":\n  is     " + got + "\n  due is " + want);
+        }
+    }
+
+    void fails(String how) {
+        wrong++;
+        System.out.println(heading + how);
     }
 
     /** Tells a text to the tape and makes it the law: what law() answers. */

@@ -3,7 +3,10 @@ import java.util.Random;
 /** Runs of drawn calls: the class and the model must answer alike, call by call. */
 public final class ModelTest {
     private static final int RUNS = 400;
+    // What calls behind the 512th answer is free; a step makes 125 at most.
+    private static final int MOST_CALLS = 512 - 125;
     private static Random draws;
+    private static int asked;
 
     private static int near(int least, int most) {
         int span = most - least + 1;
@@ -55,6 +58,7 @@ public final class ModelTest {
     }
 
     private static int check(String call, long got, long want) {
+        asked++;
         if (got == want) return 0;
         System.out.println(call + " answered " + got + ", the model says " + want);
         return 1;
@@ -199,6 +203,7 @@ public final class ModelTest {
 
     private static int run(int seed) {
         draws = new Random(seed);
+        asked = 0;
         ShieldLine x = new ShieldLine();
         Model m = new Model();
         int calls = 60 + draws.nextInt(240);
@@ -207,7 +212,7 @@ public final class ModelTest {
             int place = draws.nextInt(36);
             if (check("person", x.person(place), m.person(place)) > 0) return 1;
         }
-        for (int i = 0; i < calls; i++) {
+        for (int i = 0; i < calls && asked <= MOST_CALLS; i++) {
             int group = draws.nextInt(10);
             int wrong = group < 3 ? people(x, m, draws.nextInt(10))
                 : group < 5 ? thought(x, m, draws.nextInt(8))
