@@ -635,6 +635,33 @@ public final class DeedEdgeTest {
         due.is("count(3), forty still", y.count(3), 40);
     }
 
+    /** Of n changes of unlike numbers of unlike people the first are kept no more. */
+    @Edge(promise = 30, says = CHANGES)
+    static void fortyUnlikeOnes() {
+        for (int n = 40; n <= 43; n++) {
+            ShieldLine x = Towns.many(8);
+            int[] most = {35, 9, 9, 99, 0, 9, 99};
+            int[][] told = new int[n][];
+            for (int i = 0; i < n; i++) {
+                int what = i % 7 == 4 ? 3 : i % 7;
+                int one = what < 5 ? i * 5 % 8 : 0;
+                int was = x.of(one, what);
+                told[i] = new int[] {one, what, was, (was + 1 + i % 3) % (most[what] + 1)};
+                x.mend(one, what, told[i][3]);
+            }
+            for (int i = n - 1; i >= n - 40; i--) {
+                due.is("undo() of " + n, x.undo(), i - n + 40);
+                due.is("what it was", x.of(told[i][0], told[i][1]), told[i][2]);
+            }
+            due.is("undo() of none, of " + n, x.undo(), STATE);
+            for (int i = n - 40; i < n; i++) {
+                due.is("redo() of " + n, x.redo(), n - 1 - i);
+                due.is("what it is", x.of(told[i][0], told[i][1]), told[i][3]);
+            }
+            due.is("redo() of none, of " + n, x.redo(), STATE);
+        }
+    }
+
     @Edge(promise = 30, says = CHANGES)
     static void allNumbersAreDoneAgain() {
         ShieldLine x = Towns.many(8);

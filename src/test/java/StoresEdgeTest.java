@@ -566,6 +566,25 @@ public final class StoresEdgeTest {
         turns("the wind's only once", y, 30, 0, NOTHING);
     }
 
+    @Edge(promise = 21, says = {"n (1 .. 3) deeds in all", "t (0 .. 6) days pass", "his first (8: nothing;"})
+    static void hisFirstAtTheMost() {
+        ShieldLine x = Towns.many(2);
+        turns("0 cares for 1, and lacks", x, 16, 1, 0);
+        turns("0 cares for 1, and lacks", x, 26, 1, 0);
+        turns("0 and 1 care for one another", x, 36, 0, 0);
+        turns("0 and 1 care for one another", x, 34, 0, 0);
+        turns("his deed behind the wind's is enough", x, 33, 0, NOTHING);
+        ShieldLine y = windy(8, 0, 1, 2, 3, 4, 5, 6, 1, 6);
+        turns("7 is the only one who helps", y, 11, 0, 7);
+        for (int i = 0; i < 8; i++) y.mend(i, 3, 0);
+        y.mend(7, 3, 5);
+        turns("seven lack, and the wind takes five from 7", y, 20, 8, NOTHING);
+        y.mend(7, 3, 6);
+        turns("seven lack, and the wind takes five from 7", y, 20, 7, NOTHING);
+        y.mend(7, 3, 0);
+        turns("eight lack", y, 36, 8, NOTHING);
+    }
+
     @Edge(promise = 21, says = {"What is answered so changes nothing.", "IN THOUGHT"})
     static void byTurnsChangesNothing() {
         Edges.changesNothing(due, x -> {

@@ -147,6 +147,21 @@ public final class ThoughtEdgeTest {
         }
     }
 
+    @Edge(promise = 9, says = {"PEOPLE 0 .. 7, as they come: PLACE, GIVES", "NEEDS", "STORE", "CARES"})
+    static void theLastOfEightInThought() {
+        ShieldLine x = Towns.many(8);
+        x.mend(7, 0, 35);
+        x.mend(7, 1, 9);
+        x.mend(7, 2, 1);
+        x.mend(7, 3, 50);
+        x.mend(7, 4, 0);
+        x.mend(0, 4, 7);
+        x.mend(0, 1, 8);
+        due.is("STORE of 0, to whom 9 less 10 by 2 come", x.later(1, 0), 21);
+        due.is("STORE of 7, to whom 8 less 10 by 2 come", x.later(1, 7), 52);
+        due.is("STORE of 6", x.later(1, 6), 15);
+    }
+
     @Edge(promise = 9, says = {"What is answered so changes nothing.", "IN THOUGHT"})
     static void laterChangesNothing() {
         Edges.changesNothing(due, x -> {
@@ -503,6 +518,64 @@ public final class ThoughtEdgeTest {
                 due.is("round(" + n + ", -2) from DAY " + d[0], x.round(n, -2), 40 + 2 * d[n + 1]);
             }
         }
+    }
+
+    /** 3 has 1 and needs 9: only what 7 gives helps him. */
+    @Edge(promise = 14, says = {ROUND, "PEOPLE 0 .. 7"})
+    static void theLastOfEightInARound() {
+        ShieldLine x = Towns.many(8);
+        x.mend(7, 1, 9);
+        x.mend(3, 2, 9);
+        x.mend(3, 3, 1);
+        due.is("round(1, -1)", x.round(1, -1), 0);
+        due.is("round(1, -2): 141 and 37 less 30", x.round(1, -2), 148);
+        int[] ring = {1, 2, 4, 0, 5, 6, 7, 3};
+        for (int one = 0; one < 8; one++) due.is("round(1, " + one + ")", x.round(1, one), ring[one]);
+        x.mend(7, 1, 8);
+        due.is("round(1, -1), 8 are not enough", x.round(1, -1), 1);
+    }
+
+    @Edge(promise = 14, says = ROUND)
+    static void allOfEightLack() {
+        ShieldLine x = Towns.many(8);
+        for (int i = 0; i < 8; i++) x.mend(i, 3, 0);
+        for (int n = 0; n <= 6; n += 6) {
+            due.is("round(" + n + ", -1)", x.round(n, -1), 8);
+            due.is("round(" + n + ", -2)", x.round(n, -2), 0);
+            for (int one = 0; one < 8; one++) due.is("round(" + n + ", " + one + ")", x.round(n, one), (one + 1) % 8);
+        }
+        x.mend(7, 3, 1);
+        due.is("round(0, -1), 7 has one", x.round(0, -1), 7);
+        due.is("round(0, -2), 7 has one", x.round(0, -2), 1);
+    }
+
+    @Edge(promise = 14, says = "ROUND: all care for one another in one ring")
+    static void aRoundOfWhatIsNow() {
+        ShieldLine x = Towns.many(2);
+        due.is("round(1, -2) of two", x.round(1, -2), 42);
+        x.person(0);
+        due.is("round(1, -2) of three", x.round(1, -2), 63);
+        Due.bytes(x, 0, 0, 4, 3);
+        x.people(0, 0, 1);
+        due.is("round(1, -2) of four", x.round(1, -2), 84);
+        x.day();
+        due.is("round(1, -2) behind a day", x.round(1, -2), 64);
+        Due.law(x, "9");
+        due.is("round(1, -2) by a law", x.round(1, -2), 84);
+        Due.law(x, "9)");
+        due.is("round(1, -2) behind a fault", x.round(1, -2), 84);
+        x.mend(3, 3, 99);
+        due.is("round(1, -2) behind a change", x.round(1, -2), 3 * 21 + 99);
+        x.undo();
+        due.is("round(1, -2) undone", x.round(1, -2), 84);
+        x.redo();
+        x.gives(3, 0, 99);
+        due.is("round(1, -2) behind a gift: 3 gives nothing, to 0", x.round(1, -2), 96 + 21 + 21 + 6);
+        x.image();
+        x.gives(0, 3, 99);
+        due.is("round(0, 0), all care", x.round(0, 0), 1);
+        x.back();
+        due.is("round(0, -2) laid back", x.round(0, -2), 99 + 15 + 15);
     }
 
     @Edge(promise = 14, says = "all care for one another in one ring")
