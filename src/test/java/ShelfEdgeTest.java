@@ -477,7 +477,8 @@ public final class ShelfEdgeTest {
         for (int i = 0; i < want.length; i++) due.is("element(" + shelf + ", " + i + ")", x.element(shelf, i), want[i]);
     }
 
-    @Edge(promise = 38, says = {"-13 a place that is not there;", "as they all were before: n. BAD, -11 (either), -12 (no ROWS, or of unlike sorts), -13."})
+    @Edge(promise = 38, says = {"-13 a place that is not there;",
+        "as they all were before: n. BAD, -11 (either), -12 (no ROWS, or of unlike sorts), -13."})
     static void placesOfShift() {
         ShieldLine x = new ShieldLine();
         Due.bytes(x, 0, 1, 2, 3, 4, 5);
@@ -663,7 +664,8 @@ public final class ShelfEdgeTest {
         }
     }
 
-    @Edge(promise = 40, says = {"2 bytes on THE TAPE, 3 changes that may be UNDONE, 4 BODIES", "(at most 120 bytes)", "40 at most are kept", "BODIES 0 .. 49"})
+    @Edge(promise = 40, says = {"2 bytes on THE TAPE, 3 changes that may be UNDONE, 4 BODIES",
+        "(at most 120 bytes)", "40 at most are kept", "BODIES 0 .. 49"})
     static void tapeChangesAndBodiesAtMost() {
         ShieldLine x = Towns.many(1);
         for (int i = 1; i <= 121; i++) x.feed('g');

@@ -121,7 +121,8 @@ public final class StoresEdgeTest {
 
     // ---- promise 18
 
-    @Edge(promise = 18, says = "Of STORES of one (ab: 10 times him, and the one told): GIFTS: how many (what 0), the least (1; NOT), FOR WHOM (2: bits).")
+    @Edge(promise = 18, says = "Of STORES of one (ab: 10 times him, and the one told): GIFTS: how many (what 0), "
+        + "the least (1; NOT), FOR WHOM (2: bits).")
     static void numbersOfFits() {
         ShieldLine x = Towns.many(2);
         x.row(0, 0, 0);
@@ -535,7 +536,8 @@ public final class StoresEdgeTest {
         turns("3 less 5 is 0, and 4 less 4 come", y, 21, 1, NOTHING);
     }
 
-    @Edge(promise = 21, says = "he wants fewest to LACK, the wind most: that, if both do their best; his first (8: nothing; of like ones nothing first, then the least).")
+    @Edge(promise = 21, says = "he wants fewest to LACK, the wind most: that, if both do their best; his first "
+        + "(8: nothing; of like ones nothing first, then the least).")
     static void ofLikeDeedsTheFirst() {
         ShieldLine x = Towns.many(3);
         for (int i = 0; i < 3; i++) x.mend(i, 3, 5);
